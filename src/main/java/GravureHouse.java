@@ -222,7 +222,7 @@ public final class GravureHouse {
 
     private static void needIndex(int index, int count) {
         if (index < 0 || index >= count) {
-            throw new IndexOutOfBoundsException("no such thing");
+            throw new IndexOutOfBoundsException("no such cell, ink, unit, column or copy");
         }
     }
 

@@ -245,6 +245,22 @@ public final class GravureHouseTest {
         house.colour(1, 10, 0, 30);
         house.colour(9, 50, 0, 30);
         inks("not by two steps", house, 0, 1, 90, 100, 90, 0);
+        house = ruled("trap 1 black 0");
+        inks("white", house, 9, 1, 0, 0, 0, 0);
+        house.colour(10, 90, 90, 90);
+        inks("white beside a darker one", house, 9, 1, 0, 0, 0, 0);
+        house.colour(0, 0, 50, 50);
+        house.colour(8, 10, 30, 10);
+        house.colour(9, 10, 10, 70);
+        inks("the first row is above the second", house, 8, 1, 100, 90, 90, 0);
+        inks("the first column is ahead of the second", house, 1, 1, 0, 0, 0, 0);
+        house.colour(1, 10, 20, 10);
+        inks("sides in the first column and below", house, 1, 1, 100, 90, 90, 0);
+        house.colour(62, 40, 10, 10);
+        house.colour(63, 80, 0, 30);
+        inks("the last column is behind the last but one", house, 62, 1, 60, 100, 90, 0);
+        house.colour(55, 20, 10, 20);
+        inks("the last row is below the last but one", house, 55, 1, 80, 100, 80, 0);
     }
 
     private static void trapsWithBlack() {
@@ -305,7 +321,8 @@ public final class GravureHouseTest {
 
     private static void applyRefuses() {
         GravureHouse house = new GravureHouse();
-        String[] firsts = {"black", "black x", "black 101", "black 0050", "black 1000", "black 5x", "blac 5", "blacks 5",
+        String[] firsts = {"black", "black x", "black 101", "black 0050", "black 1000", "black 5x", "blac 5", "blacks 5", "slack 5",
+            "blank 5", "crap 1", "again 1 1",
             "black5", "5", "50 black", "limit 99", "limit 401", "limit", "trap 2", "trap", "gain 4 1", "gain 1", "gain",
             "gain 1 41", "gain x 1", "gain 1 x", "gain 0001 5", "gain 1 black 5", "tolerance 10", "tolerance", "delay 51",
             "delay", "delay delay", "x", "0", "tint 1"};
@@ -416,6 +433,12 @@ public final class GravureHouseTest {
     // ---- promise 7
 
     private static void correct() {
+        GravureHouse fresh = new GravureHouse();
+        fresh.correct(3, 1, 2);
+        fresh.print(9);
+        due("the delay at first: not yet", fresh.unit(3, 1), 0);
+        fresh.print(1);
+        due("the delay at first: now", fresh.unit(3, 1), 2);
         GravureHouse house = ruled("delay 3");
         due("first", house.correct(0, 50, -50), 1);
         house.print(2);
@@ -807,6 +830,12 @@ public final class GravureHouseTest {
         due("49 is none", house.dot(16, 0), false);
         due("50 is one", house.dot(24, 0), true);
         due("another ink", house.dot(24, 1), false);
+        house.colour(32, 0, 100, 100);
+        house.colour(33, 50, 100, 100);
+        house.colour(34, 0, 100, 100);
+        house.plates();
+        due("100 leaves no error", house.dot(33, 0), true);
+        due("50 leaves -50", house.dot(34, 0), true);
         house.colour(24, 100, 100, 100);
         due("the plate as it is", house.dot(24, 0), true);
         refusedIndices("dot of", cell -> house.dot(cell, 0), 64);
