@@ -1,5 +1,6 @@
 import java.util.ArrayDeque;
 import java.util.ArrayList;
+import java.util.Arrays;
 import java.util.List;
 import java.util.Random;
 
@@ -47,7 +48,7 @@ public final class GravureHouseModelTest {
                 String got = answer(house, name, n);
                 String due = model.answer(name, n);
                 if (!got.equals(due)) {
-                    return "call " + i + ", " + name + java.util.Arrays.toString(n) + " answered " + got + ", due is " + due;
+                    return "call " + i + ", " + name + Arrays.toString(n) + " answered " + got + ", due is " + due;
                 }
             }
             return null;
@@ -244,7 +245,7 @@ public final class GravureHouseModelTest {
 
         Model() {
             for (int[] row : keys) {
-                java.util.Arrays.fill(row, 50);
+                Arrays.fill(row, 50);
             }
             for (int cell = 0; cell < 64; cell++) {
                 lights[cell] = new int[] {100, 100, 100};

@@ -321,11 +321,11 @@ public final class GravureHouseTest {
 
     private static void applyRefuses() {
         GravureHouse house = new GravureHouse();
-        String[] firsts = {"black", "black x", "black 101", "black 0050", "black 1000", "black 5x", "blac 5", "blacks 5", "slack 5",
-            "blank 5", "crap 1", "again 1 1",
-            "black5", "5", "50 black", "limit 99", "limit 401", "limit", "trap 2", "trap", "gain 4 1", "gain 1", "gain",
-            "gain 1 41", "gain x 1", "gain 1 x", "gain 0001 5", "gain 1 black 5", "tolerance 10", "tolerance", "delay 51",
-            "delay", "delay delay", "x", "0", "tint 1"};
+        String[] firsts = {"black", "black x", "black 101", "black 0050", "black 1000", "black 5x", "blac 5",
+            "blacks 5", "slack 5", "blank 5", "crap 1", "again 1 1", "black5", "5", "50 black", "limit 99",
+            "limit 401", "limit", "trap 2", "trap", "gain 4 1", "gain 1", "gain", "gain 1 41", "gain x 1", "gain 1 x",
+            "gain 0001 5", "gain 1 black 5", "tolerance 10", "tolerance", "delay 51", "delay", "delay delay", "x",
+            "0", "tint 1"};
         for (String rules : firsts) {
             due("apply " + rules, typed(house, rules), -1);
         }
