@@ -5,47 +5,50 @@ import java.util.List;
 import java.util.Random;
 
 /** Runs of 512 calls, drawn by fixed seeds, whose answers are compared with those of a second, slower reckoning. */
-public final class GravureHouseModelTest {
+public final class ModelTest {
     private static final int RUNS = 400;
     private static final int CALLS = 512;
     private static final String[] CALL_NAMES = {"colour", "type", "apply", "plates", "drift", "correct", "key", "tear",
         "job", "print", "sign", "differs", "claim", "ink", "dot", "unit", "copy", "next", "all"};
+    // The calls are named in the order of their promises, behind the new object's.
+    private static final int FIRST_PROMISE = 2;
     private static final int[] WEIGHTS = {40, 0, 8, 8, 6, 10, 8, 3, 8, 30, 5, 8, 8, 40, 20, 15, 15, 8, 15};
     private static final String[] RULES = {"black ", "limit ", "trap ", "gain ", "tolerance ", "delay "};
     private static final int[] MOSTS = {100, 400, 1, 40, 9, 50};
 
-    private GravureHouseModelTest() {
+    private ModelTest() {
     }
 
     public static void main(String[] args) {
         for (int run = 0; run < RUNS; run++) {
-            String fault = new Run(run).fault();
-            if (fault != null) {
-                System.out.println("run " + run + ": " + fault);
-                System.exit(1);
-            }
+            Run calls = new Run(run);
+            String wrong = calls.wrong();
+            Checks.count(calls.promise, "run " + run, wrong);
         }
-        System.out.println(RUNS + " runs are as reckoned");
+        Checks.end(1, 0);
     }
 
     /** One run: the house, the second reckoning, and what is typed into both. */
     private static final class Run {
         private final Random random;
         private final boolean calm;
-        private final GravureHouse house = new GravureHouse();
+        private final Calls house = new Calls();
         private final Model model = new Model();
         private String toType = "";
+        private int promise = 1;
 
         Run(int seed) {
             random = new Random(seed);
             calm = seed % 2 == 0;
         }
 
-        String fault() {
+        /** Returns the first answer that is not as it is reckoned, or null; the promise is that of the last call. */
+        String wrong() {
             for (int i = 0; i < CALLS; i++) {
                 String name = drawName();
+                promise = FIRST_PROMISE + List.of(CALL_NAMES).indexOf(name);
                 int[] n = drawArguments(name);
-                String got = answer(house, name, n);
+                String got = house.answer(name, n);
                 String due = model.answer(name, n);
                 if (!got.equals(due)) {
                     return "call " + i + ", " + name + Arrays.toString(n) + " answered " + got + ", due is " + due;
@@ -156,72 +159,16 @@ public final class GravureHouseModelTest {
 
         private int[] drawRightCorrection() {
             int unit = random.nextInt(4);
-            return new int[] {unit, between(-2, 2) - house.unit(unit, 0), between(-2, 2) - house.unit(unit, 1)};
-        }
-    }
-
-    private static String answer(GravureHouse house, String name, int[] n) {
-        try {
-            switch (name) {
-                case "colour":
-                    house.colour(n[0], n[1], n[2], n[3]);
-                    return "";
-                case "type":
-                    return "" + house.type((char) n[0]);
-                case "apply":
-                    return "" + house.apply();
-                case "plates":
-                    return "" + house.plates();
-                case "drift":
-                    house.drift(n[0], n[1], n[2]);
-                    return "";
-                case "correct":
-                    return "" + house.correct(n[0], n[1], n[2]);
-                case "key":
-                    return "" + house.key(n[0], n[1], n[2]);
-                case "tear":
-                    return "" + house.tear();
-                case "job":
-                    house.job(n[0]);
-                    return "";
-                case "print":
-                    return "" + house.print(n[0]);
-                default:
-                    return question(house, name, n);
-            }
-        } catch (RuntimeException e) {
-            return e.getClass().getSimpleName();
-        }
-    }
-
-    private static String question(GravureHouse house, String name, int[] n) {
-        switch (name) {
-            case "sign":
-                return "" + house.sign();
-            case "differs":
-                return "" + house.differs(n[0]);
-            case "claim":
-                return "" + house.claim(n[0]);
-            case "ink":
-                return "" + house.ink(n[0], n[1], n[2]);
-            case "dot":
-                return "" + house.dot(n[0], n[1]);
-            case "unit":
-                return "" + house.unit(n[0], n[1]);
-            case "copy":
-                return "" + house.copy(n[0], n[1]);
-            case "next":
-                return "" + house.next();
-            default:
-                return "" + house.all(n[0]);
+            return new int[] {unit, between(-2, 2) - model.registers[unit][0],
+                between(-2, 2) - model.registers[unit][1]};
         }
     }
 
     /** The second reckoning: it keeps what was done, and works each answer out anew. */
     private static final class Model {
-        private static final String INDEX = "IndexOutOfBoundsException";
-        private static final String ARGUMENT = "IllegalArgumentException";
-        private static final String STATE = "IllegalStateException";
+        private static final String INDEX = Calls.INDEX;
+        private static final String ARGUMENT = Calls.ARGUMENT;
+        private static final String STATE = Calls.STATE;
 
         private final int[][] lights = new int[64][];
         private final int[][] plates = new int[64][4];

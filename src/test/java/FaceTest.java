@@ -6,14 +6,12 @@ import java.util.Set;
 import java.util.TreeSet;
 
 /** Tests that the class shows the document's face and nothing else, and keeps nothing in static fields. */
-public final class GravureHouseFaceTest {
+public final class FaceTest {
     private static final String I = " IndexOutOfBoundsException";
     private static final String A = " IllegalArgumentException";
     private static final String S = " IllegalStateException";
 
-    private static int wrong = 0;
-
-    private GravureHouseFaceTest() {
+    private FaceTest() {
     }
 
     public static void main(String[] args) {
@@ -29,10 +27,7 @@ public final class GravureHouseFaceTest {
                 && !Modifier.isProtected(inside.getModifiers()));
             staticFields(inside);
         }
-        System.out.println(wrong + " wrong");
-        if (wrong != 0) {
-            System.exit(1);
-        }
+        Checks.end(1, 1);
     }
 
     private static Set<String> dueMethods() {
@@ -102,9 +97,6 @@ public final class GravureHouseFaceTest {
     }
 
     private static void check(String what, boolean holds) {
-        if (!holds) {
-            wrong++;
-            System.out.println("does not hold: " + what);
-        }
+        Checks.count(1, "the public face", holds ? null : "does not hold: " + what);
     }
 }
