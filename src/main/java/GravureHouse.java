@@ -381,32 +381,38 @@ public final class GravureHouse {
 
         private int checkParts() {
             int count = 0;
-            int part = 0;
-            while (part < parts) {
+            int numbersBehind = 0;
+            for (int part = 0; part < parts; part++) {
+                if (numbersBehind > 0) {
+                    numbersBehind--;
+                    continue;
+                }
                 RuleWord word = wordAt(part);
                 if (word == null || !hasRightNumbers(word, part)) {
                     return -(part + 1);
                 }
-                part += 1 + word.numbers;
+                numbersBehind = word.numbers;
                 count++;
             }
             return count;
         }
 
         private void setParts(Rules rules) {
-            int part = 0;
-            while (part < parts) {
+            for (int part = 0; part < parts; part++) {
+                // A part that is no word is a number of the rule ahead of it: all parts were checked.
                 RuleWord word = wordAt(part);
-                if (word == null) {
-                    return;
+                if (word != null) {
+                    set(rules, word, part);
                 }
-                int number = numberAt(part + word.numbers);
-                if (word == RuleWord.GAIN) {
-                    rules.setGain(numberAt(part + 1), number);
-                } else {
-                    rules.set(word, number);
-                }
-                part += 1 + word.numbers;
+            }
+        }
+
+        private void set(Rules rules, RuleWord word, int part) {
+            int number = numberAt(part + word.numbers);
+            if (word == RuleWord.GAIN) {
+                rules.setGain(numberAt(part + 1), number);
+            } else {
+                rules.set(word, number);
             }
         }
 
